@@ -40,7 +40,7 @@ public final class CardRacks {
 
     private static final int FLOAT_BIAS = 127;
     private static final int FLOAT_FRACTION_BITS = 23;
-    private static final float FLOAT_FRACTIONS = 8388608f;
+    private static final int FLOAT_FRACTIONS = 8388608;
     private static final int FLOAT_MOST_STEPS = 200;
 
     // Six states are made once and only change places, so that no call makes one.
@@ -289,12 +289,12 @@ public final class CardRacks {
         return isWithin(slot, 0, SLOTS - 1);
     }
 
-    private static boolean areBeside(int slot, int other) {
-        return (BESIDE[slot] >> other & 1) == 1;
-    }
-
     private static boolean isOccasion(int occasion) {
         return isWithin(occasion, 0, OCCASIONS - 1);
+    }
+
+    private static boolean areBeside(int slot, int other) {
+        return (BESIDE[slot] >> other & 1) == 1;
     }
 
     private static int sumOf(int[] row) {
@@ -324,7 +324,7 @@ public final class CardRacks {
             rest = rest * 2f;
             exponent--;
         }
-        int fraction = (int) ((rest - 1f) * FLOAT_FRACTIONS);
+        int fraction = (int) ((rest - 1f) * (float) FLOAT_FRACTIONS);
         return (exponent << FLOAT_FRACTION_BITS) + fraction;
     }
 

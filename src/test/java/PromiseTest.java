@@ -218,6 +218,8 @@ public final class PromiseTest {
         due("season(0, 11, 20)", x.season(0, 11, 20), 0);
         due("season(0, 0, 9)", x.season(0, 0, 9), 0);
         due("season(0, 359, 10)", x.season(0, 359, 10), 1);
+        due("season(0, 0, 0)", x.season(0, 0, 0), 0);
+        due("season(0, 1, 0)", x.season(0, 1, 0), 1);
         due("season(0, 359, 9)", x.season(0, 359, 9), 0);
         due("season(0, 10, 9)", x.season(0, 10, 9), 1);
         due("season(4, 359, 359)", x.season(4, 359, 359), 0);
@@ -315,6 +317,11 @@ public final class PromiseTest {
         y.sell(0);
         due("no card left", y.slotOf(3, 1), 0);
         due("it keeps its verse", y.slotOf(3, 0), 0);
+        y.lay(9, 1, 1);
+        due("lay(9, 0, 1) onto one card", y.lay(9, 0, 1), IMPOSSIBLE);
+        y.order(0, 1);
+        due("lay(9, 0, 1) onto one card", y.lay(9, 0, 1), IMPOSSIBLE);
+        y.clear(9);
         due("lay(3, 1, 1)", y.lay(3, 1, 1), 1);
         due("it has another verse now", y.slotOf(3, 0), 1);
         due("what was sold out of it stays", y.slotOf(3, 2), 1);
@@ -439,6 +446,18 @@ public final class PromiseTest {
         x.season(2, 1, 1);
         due("not in season", x.sell(0), LOST);
         due("one slot has cards", x.slotOf(9, 1), 1);
+        CardRacks y = stocked(9, 0, 0);
+        y.lay(0, 0, 1);
+        y.sell(0);
+        y.lay(4, 1, 1);
+        y.lay(6, 1, 1);
+        y.lay(5, 1, 1);
+        due("beside the slot 0", y.sell(0), 1);
+        due("out of the slot 5", y.slotOf(5, 2), 1);
+        y.clear(0);
+        y.lay(0, 1, 1);
+        due("the slot 0 itself", y.sell(0), 1);
+        due("out of the slot 0", y.slotOf(0, 2), 2);
     }
 
     // ---- promise 8
@@ -507,6 +526,7 @@ public final class PromiseTest {
         due("on its way stays", x.verseOf(0, 5), 10);
         due("sold out of the slot: none", x.slotOf(0, 2), 0);
         due("others stay", x.verseOf(1, 3), 8);
+        due("nothing is sold by it", x.count(5), 0);
         due("others stay in the rack", x.verseOf(1, 4), 2);
         due("giveBack()", x.giveBack(), IMPOSSIBLE);
         x.set(1, 100);
@@ -683,6 +703,12 @@ public final class PromiseTest {
         x.clear(2);
         due("cleared, it is not", x.slotOf(7, 4), 1 << 8);
         due("sold out of it stays", x.slotOf(2, 2), 4);
+        x.lay(0, 0, 1);
+        x.lay(1, 2, 1);
+        x.lay(5, 2, 1);
+        due("slotOf(0, 4)", x.slotOf(0, 4), 1 << 1 | 1 << 5);
+        due("slotOf(1, 4)", x.slotOf(1, 4), 1);
+        due("slotOf(5, 4)", x.slotOf(5, 4), 1);
     }
 
     // ---- promise 14
@@ -884,6 +910,10 @@ public final class PromiseTest {
         due("6 beside 1 alone, 2 beside 2 without cards", x.bestSlot(0), 2);
         x.clear(3);
         due("beside 1", x.bestSlot(0), 0);
+        x.clear(5);
+        x.lay(0, 1, 12);
+        x.lay(1, 0, 12);
+        due("beside 1 in the slot 0", x.bestSlot(0), 5);
     }
 
     // ---- promise 19
