@@ -1,68 +1,7 @@
-import java.util.Arrays;
-
 /** At least one test for each promise of the document: ordinary inputs, named edges, wrong inputs. */
-public final class PromiseTest {
-    private static final int INVALID = -1000001;
-    private static final int IMPOSSIBLE = -1000002;
-    private static final int LIMIT = -1000003;
-    private static final int MISSING = -1000004;
-    private static final int LOST = 100;
-
-    private static String part = "";
-    private static int wrong = 0;
-
-    public static void main(String[] args) {
-        newObject();
-        verse();
-        season();
-        order();
-        orderLimits();
-        lay();
-        clear();
-        sell();
-        sellAnother();
-        sellTwo();
-        giveBack();
-        pass();
-        passOrders();
-        set();
-        verseOf();
-        slotOf();
-        orderOf();
-        occasionOf();
-        occasionOfDays();
-        together();
-        would();
-        bestSlot();
-        bestSlotSums();
-        partner();
-        lasts();
-        count();
-        undo();
-        undoRestoresAll();
-        errorsChangeNothing();
-        type();
-        clearText();
-        faultOfForm();
-        faultOfCall();
-        play();
-        playEach();
-        System.out.println(wrong == 0 ? "PromiseTest: all answers are as due"
-                : "PromiseTest: " + wrong + " answers are not as due");
-        if (wrong != 0) {
-            System.exit(1);
-        }
-    }
-
-    private static void begin(String name) {
-        part = name;
-    }
-
-    private static void due(String call, long got, long want) {
-        if (got != want) {
-            wrong++;
-            System.out.println(part + ": " + call + " answered " + got + ", due is " + want);
-        }
+public final class PromiseTest extends Checks {
+    public static void main(String[] args) throws IllegalAccessException {
+        runAll(PromiseTest.class);
     }
 
     /** An object whose orders come at once. */
@@ -95,58 +34,20 @@ public final class PromiseTest {
         due("fault(1) of " + text, x.fault(1), reason);
         due("fault(2) of " + text, x.fault(2), cause);
         int states = x.count(10);
-        due("play() of " + text, x.play(), IMPOSSIBLE);
+        due("play() of " + text, x.play(), NOT_POSSIBLE);
         due("states behind play() of " + text, x.count(10), states);
     }
 
     private static void noFault(CardRacks x, String text) {
         write(x, text);
         for (int what = 0; what <= 2; what++) {
-            due("fault(" + what + ") of " + text, x.fault(what), MISSING);
+            due("fault(" + what + ") of " + text, x.fault(what), NOT_FOUND);
         }
-    }
-
-    private static int[] all(CardRacks x) {
-        int[] seen = new int[600];
-        int n = 0;
-        for (int what = 0; what <= 21; what++) {
-            if (what != 10 && what != 11) {
-                seen[n++] = x.count(what);
-            }
-        }
-        for (int verse = 0; verse < 12; verse++) {
-            for (int what = 0; what <= 9; what++) {
-                seen[n++] = x.verseOf(verse, what);
-            }
-            for (int other = 0; other < 12; other++) {
-                seen[n++] = x.together(verse, other);
-            }
-        }
-        for (int slot = 0; slot < 10; slot++) {
-            for (int what = 0; what <= 4; what++) {
-                seen[n++] = x.slotOf(slot, what);
-            }
-        }
-        for (int index = 0; index < 8; index++) {
-            for (int what = 0; what <= 2; what++) {
-                seen[n++] = x.orderOf(index, what);
-            }
-        }
-        for (int occasion = 0; occasion < 5; occasion++) {
-            for (int what = 0; what <= 4; what++) {
-                seen[n++] = x.occasionOf(occasion, what);
-            }
-        }
-        return seen;
-    }
-
-    private static void same(String call, int[] got, int[] want) {
-        due(call + ": everything as before", Arrays.equals(got, want) ? 1 : 0, 1);
     }
 
     // ---- promise 1
 
-    private static void newObject() {
+    public static void newObject() {
         begin("1 CardRacks");
         CardRacks x = new CardRacks();
         for (int what = 0; what <= 11; what++) {
@@ -155,7 +56,7 @@ public final class PromiseTest {
         due("count(20)", x.count(20), 3);
         due("count(21)", x.count(21), 50);
         for (int slot = 0; slot < 10; slot++) {
-            due("slotOf(" + slot + ", 0)", x.slotOf(slot, 0), MISSING);
+            due("slotOf(" + slot + ", 0)", x.slotOf(slot, 0), NOT_FOUND);
             due("slotOf(" + slot + ", 1)", x.slotOf(slot, 1), 0);
             due("slotOf(" + slot + ", 2)", x.slotOf(slot, 2), 0);
         }
@@ -163,7 +64,7 @@ public final class PromiseTest {
             due("occasionOf(" + occasion + ", 0)", x.occasionOf(occasion, 0), 0);
             due("occasionOf(" + occasion + ", 1)", x.occasionOf(occasion, 1), 359);
         }
-        due("undo()", x.undo(), IMPOSSIBLE);
+        due("undo()", x.undo(), NOT_POSSIBLE);
         CardRacks other = new CardRacks();
         other.verse(0, 1, 1);
         other.type('d');
@@ -173,15 +74,15 @@ public final class PromiseTest {
 
     // ---- promise 2
 
-    private static void verse() {
+    public static void verse() {
         begin("2 verse");
         CardRacks x = new CardRacks();
-        due("verse(-1, 1, 0)", x.verse(-1, 1, 0), INVALID);
-        due("verse(5, 1, 0)", x.verse(5, 1, 0), INVALID);
-        due("verse(0, 0, 0)", x.verse(0, 0, 0), INVALID);
-        due("verse(0, 100, 0)", x.verse(0, 100, 0), INVALID);
-        due("verse(0, 1, -1)", x.verse(0, 1, -1), INVALID);
-        due("verse(0, 1, 100)", x.verse(0, 1, 100), INVALID);
+        due("verse(-1, 1, 0)", x.verse(-1, 1, 0), INVALID_ARGUMENT);
+        due("verse(5, 1, 0)", x.verse(5, 1, 0), INVALID_ARGUMENT);
+        due("verse(0, 0, 0)", x.verse(0, 0, 0), INVALID_ARGUMENT);
+        due("verse(0, 100, 0)", x.verse(0, 100, 0), INVALID_ARGUMENT);
+        due("verse(0, 1, -1)", x.verse(0, 1, -1), INVALID_ARGUMENT);
+        due("verse(0, 1, 100)", x.verse(0, 1, 100), INVALID_ARGUMENT);
         due("no verse yet", x.count(0), 0);
         due("verse(0, 1, 0)", x.verse(0, 1, 0), 0);
         due("verse(4, 99, 99)", x.verse(4, 99, 99), 1);
@@ -195,23 +96,23 @@ public final class PromiseTest {
         for (int i = 3; i < 12; i++) {
             due("verse " + i, x.verse(1, 2, 3), i);
         }
-        due("a 13th verse", x.verse(1, 2, 3), LIMIT);
-        due("a wrong 13th verse", x.verse(1, 0, 3), INVALID);
+        due("a 13th verse", x.verse(1, 2, 3), LIMIT_REACHED);
+        due("a wrong 13th verse", x.verse(1, 0, 3), INVALID_ARGUMENT);
         due("verses", x.count(0), 12);
         due("the last verse", x.verseOf(11, 2), 3);
     }
 
     // ---- promise 3
 
-    private static void season() {
+    public static void season() {
         begin("3 season");
         CardRacks x = new CardRacks();
-        due("season(-1, 0, 0)", x.season(-1, 0, 0), INVALID);
-        due("season(5, 0, 0)", x.season(5, 0, 0), INVALID);
-        due("season(0, -1, 0)", x.season(0, -1, 0), INVALID);
-        due("season(0, 360, 0)", x.season(0, 360, 0), INVALID);
-        due("season(0, 0, -1)", x.season(0, 0, -1), INVALID);
-        due("season(0, 0, 360)", x.season(0, 0, 360), INVALID);
+        due("season(-1, 0, 0)", x.season(-1, 0, 0), INVALID_ARGUMENT);
+        due("season(5, 0, 0)", x.season(5, 0, 0), INVALID_ARGUMENT);
+        due("season(0, -1, 0)", x.season(0, -1, 0), INVALID_ARGUMENT);
+        due("season(0, 360, 0)", x.season(0, 360, 0), INVALID_ARGUMENT);
+        due("season(0, 0, -1)", x.season(0, 0, -1), INVALID_ARGUMENT);
+        due("season(0, 0, 360)", x.season(0, 0, 360), INVALID_ARGUMENT);
         due("nothing is changed", x.occasionOf(0, 1), 359);
         x.pass(10);
         due("season(0, 10, 10)", x.season(0, 10, 10), 1);
@@ -232,16 +133,16 @@ public final class PromiseTest {
 
     // ---- promise 4
 
-    private static void order() {
+    public static void order() {
         begin("4 order");
         CardRacks x = new CardRacks();
-        due("order(0, 1) without verses", x.order(0, 1), INVALID);
+        due("order(0, 1) without verses", x.order(0, 1), INVALID_ARGUMENT);
         x.verse(0, 10, 7);
         x.verse(1, 10, 5);
-        due("order(-1, 1)", x.order(-1, 1), INVALID);
-        due("order(2, 1)", x.order(2, 1), INVALID);
-        due("order(0, 0)", x.order(0, 0), INVALID);
-        due("order(0, 1000)", x.order(0, 1000), INVALID);
+        due("order(-1, 1)", x.order(-1, 1), INVALID_ARGUMENT);
+        due("order(2, 1)", x.order(2, 1), INVALID_ARGUMENT);
+        due("order(0, 0)", x.order(0, 0), INVALID_ARGUMENT);
+        due("order(0, 1000)", x.order(0, 1000), INVALID_ARGUMENT);
         due("order(0, 10)", x.order(0, 10), 3);
         due("paid at once", x.count(8), 100000000 - 70);
         due("not there yet", x.verseOf(0, 3), 0);
@@ -257,7 +158,7 @@ public final class PromiseTest {
         due("paid, too", x.count(8), 100000000 - 70 - 4995 - 5);
     }
 
-    private static void orderLimits() {
+    public static void orderLimits() {
         begin("4 order, limits");
         CardRacks x = new CardRacks();
         x.verse(0, 10, 1);
@@ -265,52 +166,52 @@ public final class PromiseTest {
         for (int i = 0; i < 8; i++) {
             due("order " + i, x.order(0, 999), 3);
         }
-        due("a ninth order", x.order(1, 1), LIMIT);
-        due("a wrong ninth order", x.order(1, 0), INVALID);
+        due("a ninth order", x.order(1, 1), LIMIT_REACHED);
+        due("a wrong ninth order", x.order(1, 0), INVALID_ARGUMENT);
         due("orders", x.count(4), 8);
         x.set(0, 0);
         due("a ninth that comes at once", x.order(1, 1), 0);
         due("9th hundreds", x.order(0, 999), 0);
         due("999 more", x.order(0, 999), 0);
-        due("up to 9999", x.order(0, 10), LIMIT);
+        due("up to 9999", x.order(0, 10), LIMIT_REACHED);
         due("up to 9999", x.order(0, 9), 0);
-        due("one more", x.order(0, 1), LIMIT);
+        due("one more", x.order(0, 1), LIMIT_REACHED);
         due("of the other one there may be more", x.order(1, 999), 0);
         x.pass(3);
         due("all are there", x.verseOf(0, 3), 9999);
         x.set(0, 1);
-        due("one more on its way", x.order(0, 1), LIMIT);
+        due("one more on its way", x.order(0, 1), LIMIT_REACHED);
         x.lay(0, 0, 1);
         due("the rack does not count", x.order(0, 1), 4);
-        due("and again", x.order(0, 1), LIMIT);
+        due("and again", x.order(0, 1), LIMIT_REACHED);
     }
 
     // ---- promise 5
 
-    private static void lay() {
+    public static void lay() {
         begin("5 lay");
         CardRacks x = stocked(30, 0, 0);
-        due("lay(-1, 0, 1)", x.lay(-1, 0, 1), INVALID);
-        due("lay(10, 0, 1)", x.lay(10, 0, 1), INVALID);
-        due("lay(0, -1, 1)", x.lay(0, -1, 1), INVALID);
-        due("lay(0, 2, 1)", x.lay(0, 2, 1), INVALID);
-        due("lay(0, 0, 0)", x.lay(0, 0, 0), INVALID);
-        due("lay(0, 0, 13)", x.lay(0, 0, 13), INVALID);
+        due("lay(-1, 0, 1)", x.lay(-1, 0, 1), INVALID_ARGUMENT);
+        due("lay(10, 0, 1)", x.lay(10, 0, 1), INVALID_ARGUMENT);
+        due("lay(0, -1, 1)", x.lay(0, -1, 1), INVALID_ARGUMENT);
+        due("lay(0, 2, 1)", x.lay(0, 2, 1), INVALID_ARGUMENT);
+        due("lay(0, 0, 0)", x.lay(0, 0, 0), INVALID_ARGUMENT);
+        due("lay(0, 0, 13)", x.lay(0, 0, 13), INVALID_ARGUMENT);
         due("lay(0, 0, 5)", x.lay(0, 0, 5), 5);
         due("lay(0, 0, 7)", x.lay(0, 0, 7), 12);
         due("back room", x.verseOf(0, 3), 18);
         due("its slot", x.slotOf(0, 0), 0);
         due("its cards", x.slotOf(0, 1), 12);
-        due("lay(0, 0, 1)", x.lay(0, 0, 1), LIMIT);
-        due("lay(0, 1, 1)", x.lay(0, 1, 1), IMPOSSIBLE);
+        due("lay(0, 0, 1)", x.lay(0, 0, 1), LIMIT_REACHED);
+        due("lay(0, 1, 1)", x.lay(0, 1, 1), NOT_POSSIBLE);
         due("lay(9, 0, 12)", x.lay(9, 0, 12), 12);
-        due("lay(8, 0, 7): too few", x.lay(8, 0, 7), IMPOSSIBLE);
-        due("lay(9, 0, 7): too few and too many", x.lay(9, 0, 7), IMPOSSIBLE);
+        due("lay(8, 0, 7): too few", x.lay(8, 0, 7), NOT_POSSIBLE);
+        due("lay(9, 0, 7): too few and too many", x.lay(9, 0, 7), NOT_POSSIBLE);
         due("lay(8, 0, 5)", x.lay(8, 0, 5), 5);
         due("lay(8, 0, 1)", x.lay(8, 0, 1), 6);
         due("back room", x.verseOf(0, 3), 0);
         due("in the rack", x.verseOf(0, 4), 30);
-        due("lay(0, 1, 12): of another verse and too many", x.lay(0, 1, 12), IMPOSSIBLE);
+        due("lay(0, 1, 12): of another verse and too many", x.lay(0, 1, 12), NOT_POSSIBLE);
         due("nothing is paid for laying", x.count(8), 100000000 - 240);
         CardRacks y = stocked(1, 0, 1);
         y.lay(3, 0, 1);
@@ -318,35 +219,35 @@ public final class PromiseTest {
         due("no card left", y.slotOf(3, 1), 0);
         due("it keeps its verse", y.slotOf(3, 0), 0);
         y.lay(9, 1, 1);
-        due("lay(9, 0, 1) onto one card", y.lay(9, 0, 1), IMPOSSIBLE);
+        due("lay(9, 0, 1) onto one card", y.lay(9, 0, 1), NOT_POSSIBLE);
         y.order(0, 1);
-        due("lay(9, 0, 1) onto one card", y.lay(9, 0, 1), IMPOSSIBLE);
+        due("lay(9, 0, 1) onto one card", y.lay(9, 0, 1), NOT_POSSIBLE);
         y.clear(9);
         due("lay(3, 1, 1)", y.lay(3, 1, 1), 1);
         due("it has another verse now", y.slotOf(3, 0), 1);
         due("what was sold out of it stays", y.slotOf(3, 2), 1);
-        due("lay(3, 0, 1)", y.lay(3, 0, 1), IMPOSSIBLE);
+        due("lay(3, 0, 1)", y.lay(3, 0, 1), NOT_POSSIBLE);
     }
 
     // ---- promise 6
 
-    private static void clear() {
+    public static void clear() {
         begin("6 clear");
         CardRacks x = stocked(20, 0, 1);
-        due("clear(-1)", x.clear(-1), INVALID);
-        due("clear(10)", x.clear(10), INVALID);
-        due("clear(0)", x.clear(0), IMPOSSIBLE);
+        due("clear(-1)", x.clear(-1), INVALID_ARGUMENT);
+        due("clear(10)", x.clear(10), INVALID_ARGUMENT);
+        due("clear(0)", x.clear(0), NOT_POSSIBLE);
         x.lay(0, 1, 4);
         x.lay(9, 0, 1);
         due("clear(0)", x.clear(0), 4);
-        due("it is empty", x.slotOf(0, 0), MISSING);
+        due("it is empty", x.slotOf(0, 0), NOT_FOUND);
         due("it has no cards", x.slotOf(0, 1), 0);
         due("the back room has them", x.verseOf(1, 3), 20);
         due("the other verse's are where they were", x.verseOf(0, 3), 19);
-        due("clear(0)", x.clear(0), IMPOSSIBLE);
+        due("clear(0)", x.clear(0), NOT_POSSIBLE);
         x.sell(0);
         due("clear(9) without cards", x.clear(9), 0);
-        due("clear(9)", x.clear(9), IMPOSSIBLE);
+        due("clear(9)", x.clear(9), NOT_POSSIBLE);
         CardRacks y = stocked(12, 0, 0);
         y.lay(0, 0, 12);
         y.set(0, 2);
@@ -358,7 +259,7 @@ public final class PromiseTest {
             y.order(0, 998);
         }
         y.order(0, 3);
-        due("12 more would be 10000", y.clear(0), LIMIT);
+        due("12 more would be 10000", y.clear(0), LIMIT_REACHED);
         due("it is as before", y.slotOf(0, 1), 12);
         y.sell(0);
         due("11 more are 9999", y.clear(0), 11);
@@ -367,11 +268,11 @@ public final class PromiseTest {
 
     // ---- promise 7
 
-    private static void sell() {
+    public static void sell() {
         begin("7 sell");
         CardRacks x = stocked(20, 0, 1);
-        due("sell(-1)", x.sell(-1), INVALID);
-        due("sell(2)", x.sell(2), INVALID);
+        due("sell(-1)", x.sell(-1), INVALID_ARGUMENT);
+        due("sell(2)", x.sell(2), INVALID_ARGUMENT);
         due("out of the back room nothing is sold", x.sell(0), LOST);
         due("wanted", x.verseOf(0, 9), 1);
         due("lost", x.verseOf(0, 8), 1);
@@ -402,7 +303,7 @@ public final class PromiseTest {
         due("lost in all", x.count(6), 3);
     }
 
-    private static void sellAnother() {
+    public static void sellAnother() {
         begin("7 sell, another verse");
         CardRacks x = atOnce();
         x.verse(2, 10, 0);
@@ -462,13 +363,13 @@ public final class PromiseTest {
 
     // ---- promise 8
 
-    private static void sellTwo() {
+    public static void sellTwo() {
         begin("8 sellTwo");
         CardRacks x = stocked(20, 0, 0, 1);
-        due("sellTwo(-1, 0)", x.sellTwo(-1, 0), INVALID);
-        due("sellTwo(0, -1)", x.sellTwo(0, -1), INVALID);
-        due("sellTwo(3, 0)", x.sellTwo(3, 0), INVALID);
-        due("sellTwo(0, 3)", x.sellTwo(0, 3), INVALID);
+        due("sellTwo(-1, 0)", x.sellTwo(-1, 0), INVALID_ARGUMENT);
+        due("sellTwo(0, -1)", x.sellTwo(0, -1), INVALID_ARGUMENT);
+        due("sellTwo(3, 0)", x.sellTwo(3, 0), INVALID_ARGUMENT);
+        due("sellTwo(0, 3)", x.sellTwo(0, 3), INVALID_ARGUMENT);
         due("nobody wanted it", x.verseOf(0, 9), 0);
         due("sellTwo(0, 2)", x.sellTwo(0, 2), 0);
         due("both are lost", x.count(6), 2);
@@ -496,14 +397,14 @@ public final class PromiseTest {
 
     // ---- promise 9
 
-    private static void giveBack() {
+    public static void giveBack() {
         begin("9 giveBack");
         CardRacks x = atOnce();
         x.verse(0, 10, 7);
         x.verse(1, 10, 99);
         x.verse(0, 10, 1);
         x.verse(2, 10, 9);
-        due("no cards at all", x.giveBack(), IMPOSSIBLE);
+        due("no cards at all", x.giveBack(), NOT_POSSIBLE);
         for (int i = 0; i < 4; i++) {
             x.order(i, 10);
         }
@@ -514,7 +415,7 @@ public final class PromiseTest {
         x.lay(1, 1, 2);
         x.lay(2, 2, 2);
         int account = x.count(8);
-        due("all are in season", x.giveBack(), IMPOSSIBLE);
+        due("all are in season", x.giveBack(), NOT_POSSIBLE);
         x.season(0, 1, 359);
         due("giveBack()", x.giveBack(), 20);
         due("3 for each card of verse 0, 0 of verse 2", x.count(8), account + 30);
@@ -528,7 +429,7 @@ public final class PromiseTest {
         due("others stay", x.verseOf(1, 3), 8);
         due("nothing is sold by it", x.count(5), 0);
         due("others stay in the rack", x.verseOf(1, 4), 2);
-        due("giveBack()", x.giveBack(), IMPOSSIBLE);
+        due("giveBack()", x.giveBack(), NOT_POSSIBLE);
         x.set(1, 100);
         x.season(1, 5, 5);
         due("giveBack()", x.giveBack(), 10);
@@ -542,27 +443,27 @@ public final class PromiseTest {
 
     // ---- promise 10
 
-    private static void pass() {
+    public static void pass() {
         begin("10 pass");
         CardRacks x = new CardRacks();
-        due("pass(-1)", x.pass(-1), INVALID);
-        due("pass(0)", x.pass(0), INVALID);
-        due("pass(100)", x.pass(100), INVALID);
+        due("pass(-1)", x.pass(-1), INVALID_ARGUMENT);
+        due("pass(0)", x.pass(0), INVALID_ARGUMENT);
+        due("pass(100)", x.pass(100), INVALID_ARGUMENT);
         due("pass(1)", x.pass(1), 0);
         due("the day", x.count(1), 1);
         for (int i = 0; i < 20; i++) {
             due("pass(99)", x.pass(99), 0);
         }
         due("the day", x.count(1), 1981);
-        due("pass(19)", x.pass(19), LIMIT);
-        due("pass(100)", x.pass(100), INVALID);
+        due("pass(19)", x.pass(19), LIMIT_REACHED);
+        due("pass(100)", x.pass(100), INVALID_ARGUMENT);
         due("pass(18)", x.pass(18), 0);
         due("the day", x.count(1), 1999);
-        due("pass(1)", x.pass(1), LIMIT);
+        due("pass(1)", x.pass(1), LIMIT_REACHED);
         due("the day", x.count(1), 1999);
     }
 
-    private static void passOrders() {
+    public static void passOrders() {
         begin("10 pass, orders");
         CardRacks x = new CardRacks();
         x.verse(0, 10, 1);
@@ -596,21 +497,21 @@ public final class PromiseTest {
         y.pass(18);
         due("beyond the last day", y.order(0, 5), 2001);
         due("pass(1)", y.pass(1), 0);
-        due("pass(1)", y.pass(1), LIMIT);
+        due("pass(1)", y.pass(1), LIMIT_REACHED);
         due("it stays on its way", y.orderOf(0, 2), 2);
     }
 
     // ---- promise 11
 
-    private static void set() {
+    public static void set() {
         begin("11 set");
         CardRacks x = new CardRacks();
-        due("set(-1, 0)", x.set(-1, 0), INVALID);
-        due("set(2, 0)", x.set(2, 0), INVALID);
-        due("set(0, -1)", x.set(0, -1), INVALID);
-        due("set(0, 31)", x.set(0, 31), INVALID);
-        due("set(1, -1)", x.set(1, -1), INVALID);
-        due("set(1, 101)", x.set(1, 101), INVALID);
+        due("set(-1, 0)", x.set(-1, 0), INVALID_ARGUMENT);
+        due("set(2, 0)", x.set(2, 0), INVALID_ARGUMENT);
+        due("set(0, -1)", x.set(0, -1), INVALID_ARGUMENT);
+        due("set(0, 31)", x.set(0, 31), INVALID_ARGUMENT);
+        due("set(1, -1)", x.set(1, -1), INVALID_ARGUMENT);
+        due("set(1, 101)", x.set(1, 101), INVALID_ARGUMENT);
         due("set(0, 30)", x.set(0, 30), 3);
         due("set(1, 100)", x.set(1, 100), 50);
         due("set(0, 0)", x.set(0, 0), 30);
@@ -628,16 +529,16 @@ public final class PromiseTest {
 
     // ---- promise 12
 
-    private static void verseOf() {
+    public static void verseOf() {
         begin("12 verseOf");
         CardRacks x = atOnce();
-        due("verseOf(0, 0)", x.verseOf(0, 0), INVALID);
+        due("verseOf(0, 0)", x.verseOf(0, 0), INVALID_ARGUMENT);
         x.verse(3, 21, 13);
         x.verse(3, 99, 0);
-        due("verseOf(-1, 0)", x.verseOf(-1, 0), INVALID);
-        due("verseOf(2, 0)", x.verseOf(2, 0), INVALID);
-        due("verseOf(0, -1)", x.verseOf(0, -1), INVALID);
-        due("verseOf(0, 10)", x.verseOf(0, 10), INVALID);
+        due("verseOf(-1, 0)", x.verseOf(-1, 0), INVALID_ARGUMENT);
+        due("verseOf(2, 0)", x.verseOf(2, 0), INVALID_ARGUMENT);
+        due("verseOf(0, -1)", x.verseOf(0, -1), INVALID_ARGUMENT);
+        due("verseOf(0, 10)", x.verseOf(0, 10), INVALID_ARGUMENT);
         x.order(0, 40);
         x.set(0, 4);
         x.order(0, 5);
@@ -662,13 +563,13 @@ public final class PromiseTest {
 
     // ---- promise 13
 
-    private static void slotOf() {
+    public static void slotOf() {
         begin("13 slotOf");
         CardRacks x = stocked(50, 0, 1, 0);
-        due("slotOf(-1, 0)", x.slotOf(-1, 0), INVALID);
-        due("slotOf(10, 0)", x.slotOf(10, 0), INVALID);
-        due("slotOf(0, -1)", x.slotOf(0, -1), INVALID);
-        due("slotOf(0, 5)", x.slotOf(0, 5), INVALID);
+        due("slotOf(-1, 0)", x.slotOf(-1, 0), INVALID_ARGUMENT);
+        due("slotOf(10, 0)", x.slotOf(10, 0), INVALID_ARGUMENT);
+        due("slotOf(0, -1)", x.slotOf(0, -1), INVALID_ARGUMENT);
+        due("slotOf(0, 5)", x.slotOf(0, 5), INVALID_ARGUMENT);
         for (int slot = 0; slot < 10; slot++) {
             int beside = 0;
             for (int other = 0; other < 10; other++) {
@@ -690,10 +591,10 @@ public final class PromiseTest {
         due("slotOf(6, 4)", x.slotOf(6, 4), 0);
         due("slotOf(3, 4)", x.slotOf(3, 4), 1 << 8 | 1 << 2);
         due("slotOf(2, 4)", x.slotOf(2, 4), 1 << 7 | 1 << 3);
-        due("slotOf(4, 0)", x.slotOf(4, 0), MISSING);
+        due("slotOf(4, 0)", x.slotOf(4, 0), NOT_FOUND);
         due("slotOf(4, 1)", x.slotOf(4, 1), 0);
         due("slotOf(4, 2)", x.slotOf(4, 2), 0);
-        due("slotOf(4, 4)", x.slotOf(4, 4), MISSING);
+        due("slotOf(4, 4)", x.slotOf(4, 4), NOT_FOUND);
         for (int i = 0; i < 4; i++) {
             x.sell(0);
         }
@@ -713,16 +614,16 @@ public final class PromiseTest {
 
     // ---- promise 14
 
-    private static void orderOf() {
+    public static void orderOf() {
         begin("14 orderOf");
         CardRacks x = new CardRacks();
         x.verse(0, 10, 1);
         x.verse(0, 10, 1);
-        due("orderOf(-1, 0)", x.orderOf(-1, 0), INVALID);
-        due("orderOf(0, -1)", x.orderOf(0, -1), INVALID);
-        due("orderOf(0, 3)", x.orderOf(0, 3), INVALID);
-        due("orderOf(9, 3)", x.orderOf(9, 3), INVALID);
-        due("orderOf(0, 0)", x.orderOf(0, 0), MISSING);
+        due("orderOf(-1, 0)", x.orderOf(-1, 0), INVALID_ARGUMENT);
+        due("orderOf(0, -1)", x.orderOf(0, -1), INVALID_ARGUMENT);
+        due("orderOf(0, 3)", x.orderOf(0, 3), INVALID_ARGUMENT);
+        due("orderOf(9, 3)", x.orderOf(9, 3), INVALID_ARGUMENT);
+        due("orderOf(0, 0)", x.orderOf(0, 0), NOT_FOUND);
         x.order(0, 11);
         x.order(1, 12);
         x.set(0, 2);
@@ -739,13 +640,13 @@ public final class PromiseTest {
             due("orderOf(" + i + ", 1)", x.orderOf(i, 1), amounts[i]);
             due("orderOf(" + i + ", 2)", x.orderOf(i, 2), days[i]);
         }
-        due("orderOf(5, 0)", x.orderOf(5, 0), MISSING);
-        due("orderOf(8, 0)", x.orderOf(8, 0), MISSING);
+        due("orderOf(5, 0)", x.orderOf(5, 0), NOT_FOUND);
+        due("orderOf(8, 0)", x.orderOf(8, 0), NOT_FOUND);
         x.pass(2);
         due("the first one came", x.orderOf(0, 1), 11);
         due("in how many days", x.orderOf(0, 2), 1);
         due("orderOf(3, 2)", x.orderOf(3, 2), 2);
-        due("orderOf(4, 2)", x.orderOf(4, 2), MISSING);
+        due("orderOf(4, 2)", x.orderOf(4, 2), NOT_FOUND);
         x.set(0, 1);
         x.order(1, 16);
         due("behind those for the same day", x.orderOf(3, 1), 16);
@@ -754,13 +655,13 @@ public final class PromiseTest {
 
     // ---- promise 15
 
-    private static void occasionOf() {
+    public static void occasionOf() {
         begin("15 occasionOf");
         CardRacks x = new CardRacks();
-        due("occasionOf(-1, 0)", x.occasionOf(-1, 0), INVALID);
-        due("occasionOf(5, 0)", x.occasionOf(5, 0), INVALID);
-        due("occasionOf(0, -1)", x.occasionOf(0, -1), INVALID);
-        due("occasionOf(0, 5)", x.occasionOf(0, 5), INVALID);
+        due("occasionOf(-1, 0)", x.occasionOf(-1, 0), INVALID_ARGUMENT);
+        due("occasionOf(5, 0)", x.occasionOf(5, 0), INVALID_ARGUMENT);
+        due("occasionOf(0, -1)", x.occasionOf(0, -1), INVALID_ARGUMENT);
+        due("occasionOf(0, 5)", x.occasionOf(0, 5), INVALID_ARGUMENT);
         int[] wholeYear = {0, 359, 1, 0, 360};
         for (int what = 0; what <= 4; what++) {
             due("occasionOf(4, " + what + ")", x.occasionOf(4, what), wholeYear[what]);
@@ -776,7 +677,7 @@ public final class PromiseTest {
         due("season(3, 100, 99) is", x.occasionOf(3, 3), 0);
     }
 
-    private static void occasionOfDays() {
+    public static void occasionOfDays() {
         begin("15 occasionOf by days");
         CardRacks x = new CardRacks();
         x.season(1, 20, 30);
@@ -802,17 +703,17 @@ public final class PromiseTest {
 
     // ---- promise 16
 
-    private static void together() {
+    public static void together() {
         begin("16 together");
         CardRacks x = atOnce();
-        due("together(0, 0)", x.together(0, 0), INVALID);
+        due("together(0, 0)", x.together(0, 0), INVALID_ARGUMENT);
         for (int i = 0; i < 12; i++) {
             x.verse(i % 5, 10, 0);
         }
-        due("together(-1, 0)", x.together(-1, 0), INVALID);
-        due("together(0, -1)", x.together(0, -1), INVALID);
-        due("together(12, 0)", x.together(12, 0), INVALID);
-        due("together(0, 12)", x.together(0, 12), INVALID);
+        due("together(-1, 0)", x.together(-1, 0), INVALID_ARGUMENT);
+        due("together(0, -1)", x.together(0, -1), INVALID_ARGUMENT);
+        due("together(12, 0)", x.together(12, 0), INVALID_ARGUMENT);
+        due("together(0, 12)", x.together(0, 12), INVALID_ARGUMENT);
         x.order(0, 20);
         x.order(11, 20);
         x.lay(0, 0, 12);
@@ -832,17 +733,17 @@ public final class PromiseTest {
 
     // ---- promise 17
 
-    private static void would() {
+    public static void would() {
         begin("17 would");
         CardRacks x = stocked(20, 0, 0, 1);
-        due("would(-1, 0)", x.would(-1, 0), INVALID);
-        due("would(3, 0)", x.would(3, 0), INVALID);
-        due("would(0, -1)", x.would(0, -1), INVALID);
-        due("would(0, 2)", x.would(0, 2), INVALID);
-        due("would(0, 0)", x.would(0, 0), MISSING);
-        due("would(0, 1)", x.would(0, 1), MISSING);
+        due("would(-1, 0)", x.would(-1, 0), INVALID_ARGUMENT);
+        due("would(3, 0)", x.would(3, 0), INVALID_ARGUMENT);
+        due("would(0, -1)", x.would(0, -1), INVALID_ARGUMENT);
+        due("would(0, 2)", x.would(0, 2), INVALID_ARGUMENT);
+        due("would(0, 0)", x.would(0, 0), NOT_FOUND);
+        due("would(0, 1)", x.would(0, 1), NOT_FOUND);
         x.lay(3, 2, 1);
-        due("not one of another occasion", x.would(0, 0), MISSING);
+        due("not one of another occasion", x.would(0, 0), NOT_FOUND);
         x.lay(9, 1, 1);
         due("would(0, 0)", x.would(0, 0), 1);
         due("would(0, 1)", x.would(0, 1), 9);
@@ -852,36 +753,36 @@ public final class PromiseTest {
         due("nobody wanted it", x.verseOf(0, 9), 0);
         due("no card is sold", x.count(2), 3);
         x.season(0, 1, 1);
-        due("not in season", x.would(0, 0), MISSING);
-        due("not in season", x.would(1, 1), MISSING);
+        due("not in season", x.would(0, 0), NOT_FOUND);
+        due("not in season", x.would(1, 1), NOT_FOUND);
         due("another occasion is", x.would(2, 1), 3);
     }
 
     // ---- promise 18
 
-    private static void bestSlot() {
+    public static void bestSlot() {
         begin("18 bestSlot");
         CardRacks x = stocked(200, 0, 1);
-        due("bestSlot(-1)", x.bestSlot(-1), INVALID);
-        due("bestSlot(2)", x.bestSlot(2), INVALID);
+        due("bestSlot(-1)", x.bestSlot(-1), INVALID_ARGUMENT);
+        due("bestSlot(2)", x.bestSlot(2), INVALID_ARGUMENT);
         due("an empty rack", x.bestSlot(0), 0);
         for (int slot = 0; slot < 10; slot++) {
             x.lay(slot, slot == 6 ? 1 : 0, 12);
         }
-        due("no slot", x.bestSlot(0), MISSING);
-        due("no slot", x.bestSlot(1), MISSING);
+        due("no slot", x.bestSlot(0), NOT_FOUND);
+        due("no slot", x.bestSlot(1), NOT_FOUND);
         x.season(0, 5, 6);
         x.clear(8);
         due("the empty one, in season or not", x.bestSlot(0), 8);
         x.lay(8, 0, 11);
         due("one with 11 of its own cards", x.bestSlot(0), 8);
-        due("not for another verse", x.bestSlot(1), MISSING);
+        due("not for another verse", x.bestSlot(1), NOT_FOUND);
         x.giveBack();
-        due("without cards it holds its verse, too", x.bestSlot(1), MISSING);
+        due("without cards it holds its verse, too", x.bestSlot(1), NOT_FOUND);
         due("the lowest", x.bestSlot(0), 0);
     }
 
-    private static void bestSlotSums() {
+    public static void bestSlotSums() {
         begin("18 bestSlot, sums");
         CardRacks x = stocked(200, 0, 1, 2);
         x.lay(4, 0, 12);
@@ -918,19 +819,19 @@ public final class PromiseTest {
 
     // ---- promise 19
 
-    private static void partner() {
+    public static void partner() {
         begin("19 partner");
         CardRacks x = stocked(50, 0, 1, 2, 3);
-        due("partner(-1)", x.partner(-1), INVALID);
-        due("partner(4)", x.partner(4), INVALID);
+        due("partner(-1)", x.partner(-1), INVALID_ARGUMENT);
+        due("partner(4)", x.partner(4), INVALID_ARGUMENT);
         for (int i = 0; i < 4; i++) {
             x.lay(i, i, 12);
         }
-        due("none", x.partner(0), MISSING);
+        due("none", x.partner(0), NOT_FOUND);
         x.sellTwo(0, 0);
         x.sellTwo(0, 0);
         x.sellTwo(0, 0);
-        due("another one", x.partner(0), MISSING);
+        due("another one", x.partner(0), NOT_FOUND);
         x.sellTwo(0, 3);
         due("partner(0)", x.partner(0), 3);
         due("partner(3)", x.partner(3), 0);
@@ -938,7 +839,7 @@ public final class PromiseTest {
         due("of several the lowest", x.partner(0), 2);
         x.sellTwo(3, 0);
         due("most often", x.partner(0), 3);
-        due("none", x.partner(1), MISSING);
+        due("none", x.partner(1), NOT_FOUND);
     }
 
     // ---- promise 20
@@ -948,15 +849,15 @@ public final class PromiseTest {
         due("lasts(" + verse + ") of " + cards + " * " + days + " / " + wanted, x.lasts(verse), bits);
     }
 
-    private static void lasts() {
+    public static void lasts() {
         begin("20 lasts");
         CardRacks x = atOnce();
-        due("lasts(0)", x.lasts(0), INVALID);
+        due("lasts(0)", x.lasts(0), INVALID_ARGUMENT);
         x.verse(0, 10, 0);
         x.verse(0, 10, 0);
-        due("lasts(-1)", x.lasts(-1), INVALID);
-        due("lasts(2)", x.lasts(2), INVALID);
-        due("nobody wanted it", x.lasts(0), MISSING);
+        due("lasts(-1)", x.lasts(-1), INVALID_ARGUMENT);
+        due("lasts(2)", x.lasts(2), INVALID_ARGUMENT);
+        due("nobody wanted it", x.lasts(0), NOT_FOUND);
         x.sell(0);
         due("no cards", x.lasts(0), 0);
         x.order(0, 40);
@@ -1005,11 +906,11 @@ public final class PromiseTest {
 
     // ---- promise 21
 
-    private static void count() {
+    public static void count() {
         begin("21 count");
         CardRacks x = atOnce();
         for (int what : new int[] {-1, 12, 13, 19, 22, Integer.MAX_VALUE, Integer.MIN_VALUE}) {
-            due("count(" + what + ")", x.count(what), INVALID);
+            due("count(" + what + ")", x.count(what), INVALID_ARGUMENT);
         }
         x.verse(0, 9, 5);
         x.verse(1, 30, 11);
@@ -1062,15 +963,15 @@ public final class PromiseTest {
 
     // ---- promise 22
 
-    private static void undo() {
+    public static void undo() {
         begin("22 undo");
         CardRacks x = new CardRacks();
-        due("undo()", x.undo(), IMPOSSIBLE);
+        due("undo()", x.undo(), NOT_POSSIBLE);
         x.verse(0, 1, 0);
         due("history", x.count(10), 1);
         due("undo()", x.undo(), 0);
         due("no verse", x.count(0), 0);
-        due("undo()", x.undo(), IMPOSSIBLE);
+        due("undo()", x.undo(), NOT_POSSIBLE);
         for (int i = 0; i < 6; i++) {
             x.verse(0, i + 1, 0);
         }
@@ -1086,7 +987,7 @@ public final class PromiseTest {
         due("undo()", x.undo(), 0);
         due("verses", x.count(0), 2);
         due("its price", x.verseOf(1, 1), 2);
-        due("undo()", x.undo(), IMPOSSIBLE);
+        due("undo()", x.undo(), NOT_POSSIBLE);
         due("verses", x.count(0), 2);
         x.type('d');
         x.pass(3);
@@ -1104,116 +1005,36 @@ public final class PromiseTest {
         due("a season as it was is a change", x.count(10), 3);
     }
 
-    private static void undoRestoresAll() {
-        begin("22 undo restores all");
-        CardRacks x = stocked(100, 0, 0, 1);
-        x.lay(0, 0, 3);
-        x.lay(1, 1, 3);
-        x.lay(2, 2, 3);
-        x.set(0, 2);
-        x.order(0, 5);
-        x.order(2, 6);
-        int[] before = all(x);
-        x.verse(4, 1, 1);
-        x.undo();
-        same("verse", all(x), before);
-        x.season(1, 5, 6);
-        int[] season = all(x);
-        x.giveBack();
-        x.undo();
-        same("giveBack", all(x), season);
-        x.undo();
-        same("season", all(x), before);
-        x.order(1, 7);
-        x.undo();
-        same("order", all(x), before);
-        x.lay(3, 1, 1);
-        x.undo();
-        same("lay", all(x), before);
-        x.clear(0);
-        x.undo();
-        same("clear", all(x), before);
-        x.sell(0);
-        x.undo();
-        same("sell", all(x), before);
-        x.sellTwo(0, 1);
-        x.undo();
-        same("sellTwo", all(x), before);
-        x.pass(2);
-        x.undo();
-        same("pass", all(x), before);
-        x.set(1, 3);
-        x.undo();
-        same("set", all(x), before);
-        write(x, "v0,1,1;o0,9;l9,0,1;s0;d9;");
-        x.play();
-        x.undo();
-        same("play", all(x), before);
-    }
-
-    private static void errorsChangeNothing() {
-        begin("changes and errors");
-        CardRacks x = stocked(12, 0, 1);
-        x.lay(0, 0, 12);
-        x.lay(9, 1, 12);
-        int[] before = all(x);
-        int states = x.count(10);
-        x.verse(5, 1, 1);
-        x.season(0, 360, 0);
-        x.order(2, 1);
-        x.lay(0, 1, 1);
-        x.lay(0, 0, 1);
-        x.clear(1);
-        x.sell(2);
-        x.sellTwo(0, 2);
-        x.sellTwo(2, 0);
-        x.giveBack();
-        x.pass(0);
-        x.set(1, 101);
-        write(x, "d1;s0;s9;");
-        x.play();
-        x.fault(0);
-        same("errors", all(x), before);
-        due("history", x.count(10), states);
-        x.would(0, 0);
-        x.bestSlot(0);
-        x.partner(0);
-        x.lasts(0);
-        x.undo();
-        due("the latest change is undone", x.slotOf(9, 0), MISSING);
-        due("the one before is not", x.slotOf(0, 1), 12);
-    }
-
     // ---- promise 23
 
-    private static void type() {
+    public static void type() {
         begin("23 type");
         CardRacks x = new CardRacks();
-        due("type(31)", x.type(31), INVALID);
-        due("type(127)", x.type(127), INVALID);
-        due("type(-1)", x.type(-1), INVALID);
-        due("type(65536 + 100)", x.type(65636), INVALID);
+        due("type(31)", x.type(31), INVALID_ARGUMENT);
+        due("type(127)", x.type(127), INVALID_ARGUMENT);
+        due("type(-1)", x.type(-1), INVALID_ARGUMENT);
+        due("type(65536 + 100)", x.type(65636), INVALID_ARGUMENT);
         due("type(32)", x.type(32), 1);
         due("type(126)", x.type(126), 2);
         for (int i = 3; i <= 60; i++) {
             due("type " + i, x.type('d'), i);
         }
-        due("a 61st", x.type('d'), LIMIT);
-        due("a wrong 61st", x.type(127), INVALID);
+        due("a 61st", x.type('d'), LIMIT_REACHED);
+        due("a wrong 61st", x.type(127), INVALID_ARGUMENT);
         due("length", x.count(11), 60);
         due("no change", x.count(10), 0);
     }
 
     // ---- promise 24
 
-    private static void clearText() {
+    public static void clearText() {
         begin("24 clearText");
         CardRacks x = new CardRacks();
         due("clearText()", x.clearText(), 0);
         write(x, "d1;x");
         due("clearText()", x.clearText(), 4);
         due("length", x.count(11), 0);
-        due("fault(0)", x.fault(0), MISSING);
+        due("fault(0)", x.fault(0), NOT_FOUND);
         due("type", x.type('d'), 1);
         due("no change", x.count(10), 0);
         due("the old text is gone", x.fault(2), 1);
@@ -1221,14 +1042,14 @@ public final class PromiseTest {
 
     // ---- promise 25
 
-    private static void faultOfForm() {
+    public static void faultOfForm() {
         begin("25 fault, reason 1");
         CardRacks x = stocked(9, 0);
-        due("fault(-1)", x.fault(-1), INVALID);
-        due("fault(3)", x.fault(3), INVALID);
-        due("fault(0) of an empty text", x.fault(0), MISSING);
+        due("fault(-1)", x.fault(-1), INVALID_ARGUMENT);
+        due("fault(3)", x.fault(3), INVALID_ARGUMENT);
+        due("fault(0) of an empty text", x.fault(0), NOT_FOUND);
         write(x, "x");
-        due("fault(3)", x.fault(3), INVALID);
+        due("fault(3)", x.fault(3), INVALID_ARGUMENT);
         String[] broken = {"x", " s0;", ";", "1", "V0,1,1;", "s", "s;", "s0", "s0,", "s00", "s000", "s0000;",
             "s 0;", "s-1;", "s0 ;", "d", "dd", "d1", "d1,1;", "d999", "o", "o,", "o0", "o0;", "o0,", "o0,;",
             "o0,1", "o0,1,", "o0000,1;", "o0,1111;", "l0,0", "l0,0;", "l0,0,", "l0,0,1", "l0,0,1,", "l,0,1;",
@@ -1238,40 +1059,41 @@ public final class PromiseTest {
             4, 4, 4, 6, 4, 4, 5, 6, 6, 1,
             5, 6, 4, 2, 6, 8, 1, 1, 2, 2};
         for (int i = 0; i < broken.length; i++) {
-            faultDue(x, broken[i], 0, 1, causes[i]);
-            faultDue(x, "d1;" + broken[i], 3, 1, causes[i]);
-            faultDue(x, broken[i] + "s9;", 0, 1, causes[i]);
+            CardRacks y = stocked(9, 0);
+            faultDue(y, broken[i], 0, 1, causes[i]);
+            faultDue(y, "d1;" + broken[i], 3, 1, causes[i]);
+            faultDue(y, broken[i] + "s9;", 0, 1, causes[i]);
         }
         noFault(x, "s0;s00;s000;d001;o0,001;l9,00,01;v00,001,000;");
         faultDue(x, "s0;d1;s0;?", 9, 1, 0);
-        faultDue(x, "s9;x", 0, 2, INVALID);
+        faultDue(x, "s9;x", 0, 2, INVALID_ARGUMENT);
         faultDue(x, "x;s9;", 0, 1, 0);
     }
 
-    private static void faultOfCall() {
+    public static void faultOfCall() {
         begin("25 fault, reason 2");
         CardRacks x = stocked(9, 0, 0);
-        faultDue(x, "s2;", 0, 2, INVALID);
-        faultDue(x, "s1;s2;", 3, 2, INVALID);
-        faultDue(x, "d0;", 0, 2, INVALID);
-        faultDue(x, "d100;", 0, 2, INVALID);
-        faultDue(x, "o0,0;", 0, 2, INVALID);
-        faultDue(x, "o2,1;", 0, 2, INVALID);
-        faultDue(x, "v5,1,1;", 0, 2, INVALID);
-        faultDue(x, "v0,0,1;", 0, 2, INVALID);
-        faultDue(x, "v0,1,100;", 0, 2, INVALID);
-        faultDue(x, "l10,0,1;", 0, 2, INVALID);
-        faultDue(x, "l0,0,10;", 0, 2, IMPOSSIBLE);
-        faultDue(x, "l0,0,9;l0,1,1;", 7, 2, IMPOSSIBLE);
-        faultDue(x, "l0,0,9;o0,9;l0,0,4;", 12, 2, LIMIT);
-        faultDue(x, "l0,0,9;s0;s2;s0;x", 10, 2, INVALID);
+        faultDue(x, "s2;", 0, 2, INVALID_ARGUMENT);
+        faultDue(x, "s1;s2;", 3, 2, INVALID_ARGUMENT);
+        faultDue(x, "d0;", 0, 2, INVALID_ARGUMENT);
+        faultDue(x, "d100;", 0, 2, INVALID_ARGUMENT);
+        faultDue(x, "o0,0;", 0, 2, INVALID_ARGUMENT);
+        faultDue(x, "o2,1;", 0, 2, INVALID_ARGUMENT);
+        faultDue(x, "v5,1,1;", 0, 2, INVALID_ARGUMENT);
+        faultDue(x, "v0,0,1;", 0, 2, INVALID_ARGUMENT);
+        faultDue(x, "v0,1,100;", 0, 2, INVALID_ARGUMENT);
+        faultDue(x, "l10,0,1;", 0, 2, INVALID_ARGUMENT);
+        faultDue(x, "l0,0,10;", 0, 2, NOT_POSSIBLE);
+        faultDue(x, "l0,0,9;l0,1,1;", 7, 2, NOT_POSSIBLE);
+        faultDue(x, "l0,0,9;o0,9;l0,0,4;", 12, 2, LIMIT_REACHED);
+        faultDue(x, "l0,0,9;s0;s2;s0;x", 10, 2, INVALID_ARGUMENT);
         noFault(x, "l0,0,8;s0;l0,0,1;s0;s0;s0;s0;s0;s0;s0;s0;l0,1,9;");
         noFault(x, "v0,1,1;s2;");
         noFault(x, "v0,1,1;o2,12;l9,2,12;");
         for (int i = 0; i < 19; i++) {
             x.pass(99);
         }
-        faultDue(x, "d99;d20;", 4, 2, LIMIT);
+        faultDue(x, "d99;d20;", 4, 2, LIMIT_REACHED);
         noFault(x, "d99;d19;");
         due("nothing is done", x.count(1), 1881);
         x.pass(40);
@@ -1282,7 +1104,7 @@ public final class PromiseTest {
 
     // ---- promise 26
 
-    private static void play() {
+    public static void play() {
         begin("26 play");
         CardRacks x = new CardRacks();
         due("play() without orders", x.play(), 0);
@@ -1301,7 +1123,7 @@ public final class PromiseTest {
         due("sold", x.count(5), 1);
         due("account", x.count(8), 100000000 - 21 + 9);
         due("once more it is not possible", x.fault(0), 15);
-        due("play()", x.play(), IMPOSSIBLE);
+        due("play()", x.play(), NOT_POSSIBLE);
         due("nothing is done", x.count(0), 1);
         due("undo()", x.undo(), 1);
         due("no verse", x.count(0), 0);
@@ -1315,39 +1137,19 @@ public final class PromiseTest {
         due("lost", x.count(6), 14);
         due("history", x.count(10), 3);
         write(x, "d1;d");
-        due("play() of a broken one", x.play(), IMPOSSIBLE);
+        due("play() of a broken one", x.play(), NOT_POSSIBLE);
     }
 
-    private static void playEach() {
+    public static void playEach() {
         begin("26 play, each order as its call");
-        CardRacks played = stocked(30, 0, 1, 1);
-        CardRacks called = stocked(30, 0, 1, 1);
-        String[] texts = {"v3,44,55;", "o1,123;", "l4,2,7;", "s1;", "d12;", "l7,1,12;l7,1,1;", "v0,7,8;s2;"};
-        due("verse", called.verse(3, 44, 55), 3);
-        writeAndPlay(played, texts[0], 1);
-        same("v", all(played), all(called));
-        called.order(1, 123);
-        writeAndPlay(played, texts[1], 1);
-        same("o", all(played), all(called));
-        called.lay(4, 2, 7);
-        writeAndPlay(played, texts[2], 1);
-        same("l", all(played), all(called));
-        called.sell(1);
-        writeAndPlay(played, texts[3], 1);
-        same("s", all(played), all(called));
-        called.pass(12);
-        writeAndPlay(played, texts[4], 1);
-        same("d", all(played), all(called));
-        writeAndPlay(played, texts[5], IMPOSSIBLE);
-        same("not possible", all(played), all(called));
-        called.verse(0, 7, 8);
-        called.sell(2);
-        writeAndPlay(played, texts[6], 2);
-        same("two", all(played), all(called));
-    }
-
-    private static void writeAndPlay(CardRacks x, String text, int want) {
-        write(x, text);
-        due("play() of " + text, x.play(), want);
+        String[] texts = {"v3,44,55;", "o1,123;", "l4,2,7;", "s1;", "d12;", "v0,7,8;"};
+        String[] calls = {"verse(3, 44, 55)", "order(1, 123)", "lay(4, 2, 7)", "sell(1)", "pass(12)", "verse(0, 7, 8)"};
+        Racks played = Racks.stocked(30, 0, 1, 1);
+        Racks called = Racks.stocked(30, 0, 1, 1);
+        for (int i = 0; i < texts.length; i++) {
+            played.does("clearText()").types(texts[i]).due("play()", 1);
+            called.does(calls[i]);
+            due("all behind " + calls[i] + " is alike", played.state().equals(called.state()) ? 1 : 0, 1);
+        }
     }
 }
