@@ -347,6 +347,13 @@ public final class AskingEdgeTest extends Checks {
         x.due("bestSlot(1)", 2).does("clear(7)").due("bestSlot(1)", 0);
     }
 
+    public static void bestSlotBesideThoseAtTheEnds() {
+        begin("Promise 18: the sum over the slots beside it (the first and the last slot, too)");
+        Racks x = Racks.stocked(99, 0, 1).does("lay(9, 0, 12)", "lay(1, 1, 12)", "sellTwo(0, 1)").due("bestSlot(1)", 4);
+        x.does("lay(4, 1, 12)").due("bestSlot(1)", 8).does("clear(9)", "lay(0, 0, 12)").due("bestSlot(1)", 1);
+        x.does("lay(1, 1, 1)").due("bestSlot(1)", 5);
+    }
+
     public static void bestSlotLowest() {
         begin("Promise 18: of several the lowest");
         Racks x = Racks.stocked(99, 0, 1).does("lay(4, 0, 12)", "lay(5, 0, 12)", "lay(6, 1, 12)", "sellTwo(0, 1)");
@@ -378,6 +385,14 @@ public final class AskingEdgeTest extends Checks {
         begin("Promise 19: Finds the verse that sold together with a verse most often (another one)");
         Racks x = Racks.stocked(9, 0, 1).does("lay(0, 0, 9)", "lay(1, 1, 9)", "sellTwo(0, 0)", "sellTwo(0, 0)");
         x.refused("partner(0)", NOT_FOUND).does("sellTwo(1, 0)").due("partner(0)", 1).due("partner(1)", 0);
+    }
+
+    public static void partnerOfTwelve() {
+        begin("Promise 19: Finds the verse that sold together with a verse most often (the last one, too)");
+        Racks x = Racks.stocked(9, 0, 1, 1, 1, 1, 1, 1, 1, 1, 1, 1, 2);
+        x.does("lay(0, 0, 9)", "lay(1, 11, 9)", "lay(2, 5, 9)", "sellTwo(11, 0)");
+        x.due("partner(0)", 11).due("partner(11)", 0).does("sellTwo(5, 0)").due("partner(0)", 5).due("partner(5)", 0);
+        x.does("sellTwo(0, 11)").due("partner(0)", 11).refused("partner(4)", NOT_FOUND);
     }
 
     public static void partnerLowest() {

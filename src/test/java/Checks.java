@@ -10,7 +10,9 @@ abstract class Checks {
     static final int NOT_FOUND = -1000004;
     static final int LOST = 100;
 
-    private static String part = "";
+    private static final long MOST_MILLISECONDS = 300000;
+
+    private static volatile String part = "";
     private static int wrong = 0;
 
     /** Names what is tested: where the document says it, and, in the edge tests, its own words. */
@@ -31,6 +33,7 @@ abstract class Checks {
 
     /** Runs every public static method of the class that takes and answers nothing. */
     static void runAll(Class<?> tests) throws IllegalAccessException {
+        watch();
         int ran = 0;
         for (Method method : tests.getDeclaredMethods()) {
             if (isTest(method)) {
@@ -44,6 +47,21 @@ abstract class Checks {
         if (wrong != 0 || ran == 0) {
             System.exit(1);
         }
+    }
+
+    /** A call that fails to end shall fail the tests, and not hold them up. */
+    static void watch() {
+        Thread watch = new Thread(() -> {
+            try {
+                Thread.sleep(MOST_MILLISECONDS);
+            } catch (InterruptedException woken) {
+                return;
+            }
+            System.out.println(part + ": a call does not end");
+            Runtime.getRuntime().halt(1);
+        });
+        watch.setDaemon(true);
+        watch.start();
     }
 
     private static boolean isTest(Method method) {

@@ -17,6 +17,8 @@ public final class FaceTest {
     private static int wrong = 0;
 
     public static void main(String[] args) throws ReflectiveOperationException {
+        Checks.begin("FaceTest");
+        Checks.watch();
         modifiers();
         calls();
         constants();

@@ -21,6 +21,8 @@ public final class ModelTest {
     private static int wrong = 0;
 
     public static void main(String[] args) {
+        Checks.begin("ModelTest");
+        Checks.watch();
         for (int run = 0; run < RUNS && wrong < 20; run++) {
             new Run(run).go();
         }

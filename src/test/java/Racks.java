@@ -70,10 +70,10 @@ final class Racks {
     }
 
     Racks goesToDay(int day) {
-        for (int today = ask("count(1)"); today < day; today = ask("count(1)")) {
-            does("pass(" + Math.min(99, day - today) + ")");
+        for (int left = day - ask("count(1)"); left > 0; left -= 99) {
+            does("pass(" + Math.min(99, left) + ")");
         }
-        return this;
+        return due("count(1)", day);
     }
 
     /** The call returns the error, and the state, the history behind it and the text stay as they were. */

@@ -333,6 +333,14 @@ public final class TermsEdgeTest extends Checks {
         x.does("clear(8)").due("would(0, 1)", 0);
     }
 
+    public static void besideTheSlotsAtTheEnds() {
+        begin("Terms: beside most slots that hold the wanted verse (in the first and in the last slot, too)");
+        Racks x = Racks.stocked(9, 0, 0);
+        x.does("lay(0, 0, 1)", "lay(2, 1, 1)", "lay(5, 1, 1)", "lay(8, 1, 1)", "sell(0)");
+        x.due("would(0, 1)", 5).does("clear(0)").due("would(0, 1)", 2);
+        x.does("lay(9, 0, 1)", "sell(0)").due("would(0, 1)", 8);
+    }
+
     public static void ofSeveralTheLowest() {
         begin("Terms: of several the lowest");
         Racks x = Racks.stocked(9, 0, 0).does("lay(8, 1, 1)", "lay(6, 1, 1)", "lay(2, 1, 1)");

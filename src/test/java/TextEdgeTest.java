@@ -32,6 +32,12 @@ public final class TextEdgeTest extends Checks {
         due("play() of " + text, x.ask("play()"), orders);
     }
 
+    public static void emptyAtFirst() {
+        begin("Terms: There is a text of at most 60 characters, initially empty");
+        Racks x = new Racks().due("count(11)", 0).due("fault(0)", NOT_FOUND).due("clearText()", 0).due("type(120)", 1);
+        x.types("x".repeat(59)).due("count(11)", 60).refused("type(120)", LIMIT_REACHED);
+    }
+
     // ---- the form of an order
 
     public static void ordersOfTheForm() {
