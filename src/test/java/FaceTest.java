@@ -23,6 +23,7 @@ public final class FaceTest {
         calls();
         constants();
         privateNames();
+        sizes();
         neverThrows();
         System.out.println(wrong == 0 ? "FaceTest: all is as due" : "FaceTest: " + wrong + " are not as due");
         if (wrong != 0) {
@@ -91,6 +92,25 @@ public final class FaceTest {
         }
         for (Method method : hidden) {
             due(method + " bears a public name", open.contains(method.getName()), false);
+        }
+    }
+
+    /** LANGUAGE.md, rules 5 and 11: static fields are final, and classes and calls stay small. */
+    private static void sizes() {
+        List<Class<?>> classes = new ArrayList<>(List.of(CardRacks.class.getDeclaredClasses()));
+        classes.add(CardRacks.class);
+        due("at most twelve classes", classes.size() <= 12, true);
+        for (Class<?> each : classes) {
+            int fields = 0;
+            for (Field field : each.getDeclaredFields()) {
+                boolean fixed = Modifier.isStatic(field.getModifiers());
+                due(field + " is static and not final", fixed && !Modifier.isFinal(field.getModifiers()), false);
+                fields += fixed ? 0 : 1;
+            }
+            due(each + " has at most twenty fields", fields <= 20, true);
+            for (Method method : each.getDeclaredMethods()) {
+                due(method + " takes at most seven parameters", method.getParameterCount() <= 7, true);
+            }
         }
     }
 
